@@ -44,7 +44,7 @@ final class FuzzTest {
         for (int n = 0; n < 450; n++) {
             call(random.nextInt(48));
         }
-        for (int a = -8; a < x.has(0); a++) {
+        for (int a = x.has(0) > 0 ? -8 : 0; a < x.has(0); a++) {
             int sort = x.word(a, 0);
             int number = x.word(a, 1);
             boolean fine = sort == 0 ? number >= -999 && number <= 999
