@@ -7,6 +7,7 @@ final class CellsTest {
 
     public static void main(String[] args) {
         cells();
+        asFirstCall();
         places();
         ways();
         keepers();
@@ -49,6 +50,24 @@ final class CellsTest {
         }
         Check.due("room(3, 0)", x.room(3, 0), Check.NONE);
         Check.due("room(-1, 0)", x.room(-1, 0), Check.NONE);
+    }
+
+    /** Each of these must find out by itself what is live now. */
+    private static void asFirstCall() {
+        Check.due("goes(8)", Check.heap(HEAP).goes(8), 10);
+        Check.due("comes(10)", Check.heap(HEAP).comes(10), 8);
+        Check.due("block(0, 1)", Check.heap(HEAP).block(0, 1), 8);
+        Check.due("chain(18, 0)", Check.heap(HEAP).chain(18, 0), 2);
+        Check.due("longest(0)", Check.heap(HEAP).longest(0), 2);
+        Check.due("steps(1)", Check.heap(HEAP).steps(1), 22);
+        Check.due("room(1, 1)", Check.heap(HEAP).room(1, 1), 3);
+        Check.due("cell(0, 3)", Check.heap(HEAP).cell(0, 3), 1);
+        Check.due("far(11)", Check.heap(HEAP).far(11), 2);
+        Check.due("way(11, 0)", Check.heap(HEAP).way(11, 0), 1);
+        Check.due("keeps(1)", Check.heap(HEAP).keeps(1), 8);
+        Check.due("retains(13)", Check.heap(HEAP).retains(13), 5);
+        Check.due("found(-1)", Check.heap(HEAP).found(-1), 4);
+        Check.due("remember()", Check.heap(HEAP).remember(), 4);
     }
 
     private static void places() {

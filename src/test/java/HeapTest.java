@@ -116,6 +116,10 @@ final class HeapTest {
     private static void faultsOfCount() {
         Check.heapFault("heap 16;kind p num,num,num,num,num,num;cell a p 1,2,3,4,5,6;"
             + "cell b p 1,2,3,4,5,6;cell c p", 4, 88);
+        String seven = "cell a p 1;cell b p 1;cell c p 1;cell d p 1;cell e p 1;cell f p 1;cell g p 1;";
+        Check.heapFault("heap 16;kind p num;" + seven + "cell h p 1;cell i p", 4, 114);
+        Check.heapFault("heap 16;kind p num;kind q num,num;" + seven + "cell h q", 4, 118);
+        Check.heapFault("heap 17;kind p num;kind q num,num;" + seven + "cell h q 1,2;cell i p", 4, 131);
         String six = "num,ref,weak,num,ref,weak";
         Check.heapFault("heap 24;kind p " + six + ",num;", 5, 41);
         Check.heapFault("heap 24;kind p " + six + ", ?", 5, 42);

@@ -169,6 +169,14 @@ final class ImageTest {
         Check.due("on() of no cells", empty.on(), true);
         Check.due("has(1)", empty.has(1), 16);
         Check.due("image()", empty.image(), 27);
+        int[] beyond = java.util.Arrays.copyOf(bare, 30);
+        beyond[1] = 15;
+        beyond[26] = 2;
+        beyond[27] = 3;
+        beyond[28] = 232;
+        beyond[29] = sum(beyond);
+        Check.bytes(empty, beyond);
+        Check.due("on() of a cell that goes beyond the end", empty.on(), false);
     }
 
     private static void status() {

@@ -191,6 +191,8 @@ final class RunTest {
         Check.runs(x, "repeat 80 [ a=a;a=a;a=a;a=a;] when c.0 = 1 []", 400, 6, 30);
         Check.runs(x, "repeat 80 [ a=a;a=a;a=a;a=a;] slide;", 400, 6, 30);
         Check.runs(x, "repeat 0 [ c.0 = 1; ]", 0, 0, -1);
+        Check.runs(x, "d=0;repeat 2[repeat 3[repeat 4[repeat 5[d=d+1;]]]]", 1 + 2 + 6 + 24 + 240, 0, -1);
+        Check.holds(x, -5, 0, 120);
         Check.runs(x, "d = 0; repeat 2 [ repeat 3 [ d = d + 1; ] repeat 0 [ d = 0; ] d = d + 10; ]", 17, 0, -1);
         Check.holds(x, -5, 0, 26);
     }
