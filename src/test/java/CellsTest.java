@@ -201,6 +201,16 @@ final class CellsTest {
         Check.due("alike(), another word", w.alike(), 0);
         Check.due("remember()", w.remember(), 2);
         Check.due("alike()", w.alike(), 1);
+        CellSlide offsets = Check.heap("heap 24;kind s num,num,num,num,num,num;cell a s 1,2,3,4,5,6;"
+            + "cell b s 1,2,3,4,5,6;root 0 a;root 1 b;");
+        for (int by = 4; by <= 6; by++) {
+            Check.runs(offsets, "c = a + " + by + ";", 1, 0, -1);
+            Check.due("remember()", offsets.remember(), 2);
+            for (int to = 0; to <= 6; to++) {
+                Check.runs(offsets, "c = b + " + to + ";", 1, 0, -1);
+                Check.due("alike(), into another cell", offsets.alike(), 0);
+            }
+        }
         CellSlide k = Check.heap("heap 24;kind v weak;kind w weak;cell a v nil;cell b w nil;root 0 a;");
         Check.due("remember()", k.remember(), 1);
         Check.runs(k, "a = new w;", 1, 0, -1);

@@ -106,6 +106,8 @@ final class HeapTest {
         Check.heapFault(TWO + "cell a p 1,abcdefg;", 1, 56);
         Check.heapFault(TWO + "cell a p 1,w;", 3, 50);
         Check.heapFault(TWO + "set a.0 1;", 3, 43);
+        Check.heapFault(TWO + "cell a p 1,nil;set a.1 q;", 3, 62);
+        Check.heapFault(TWO + "cell a p 1,nil;set a.1 a+3;", 2, 64);
         Check.heapFault(TWO + "set p.0 1;", 3, 43);
         Check.heapFault(TWO + "set abcdefg.0 1;", 1, 49);
         Check.heapFault(TWO + "root 0 a;", 3, 46);

@@ -177,6 +177,29 @@ final class ImageTest {
         beyond[29] = sum(beyond);
         Check.bytes(empty, beyond);
         Check.due("on() of a cell that goes beyond the end", empty.on(), false);
+        beyond[28] = 233;
+        beyond[29] = sum(beyond);
+        Check.bytes(empty, beyond);
+        Check.due("on() of a kind that there is not", empty.on(), false);
+        int[] above = java.util.Arrays.copyOf(bare, 24);
+        above[1] = 17;
+        above[23] = sum(above);
+        Check.bytes(empty, above);
+        Check.due("on() of a limit above the end", empty.on(), false);
+        // NUMBER 2047 must not be taken for nil, as which it would be held.
+        int[] number = bare.clone();
+        number[2] = 0;
+        number[3] = 3047 >> 8;
+        number[4] = 3047 & 255;
+        number[26] = sum(number);
+        Check.bytes(empty, number);
+        Check.due("on() of a number that can't be", empty.on(), false);
+        int[] noWords = bare.clone();
+        noWords[1] = 0;
+        noWords[26] = sum(noWords);
+        CellSlide noHeap = new CellSlide();
+        Check.bytes(noHeap, noWords);
+        Check.due("on() of no words, without a heap", noHeap.on(), false);
     }
 
     private static void status() {

@@ -5,6 +5,7 @@ final class RunTest {
 
     public static void main(String[] args) {
         faults();
+        oneBehindTheOther();
         notRead();
         values();
         paths();
@@ -82,6 +83,26 @@ final class RunTest {
         Check.runFault(x, four + "]]]]]", 1, 40);
         Check.due("all stays", x.word(-8, 1), 21);
         Check.runs(x, four + "]when 1=0[]]]]repeat 0[]", 5, 0, -1);
+    }
+
+    /** What one text left behind is not there for the next. */
+    private static void oneBehindTheOther() {
+        CellSlide x = Check.heap(HEAP);
+        Check.runs(x, "a=b;", 1, 0, -1);
+        Check.runs(x, "   a=b;", 1, 0, -1);
+        Check.runFault(x, "repeat 1[repeat 1[", 1, 18);
+        Check.runs(x, "a=b;", 1, 0, -1);
+        Check.due("fault(1)", x.fault(1), Check.NONE);
+        Check.runFault(x, "]", 1, 0);
+        Check.text(x, HEAP);
+        Check.due("heap()", x.heap(), 10);
+        Check.due("fault(0)", x.fault(0), 0);
+        Check.due("fault(1)", x.fault(1), Check.NONE);
+        Check.text(x, HEAP + "?");
+        Check.due("heap()", x.heap(), Check.NONE);
+        Check.text(x, "      " + HEAP);
+        Check.due("heap()", x.heap(), 10);
+        Check.due("fault(1)", x.fault(1), Check.NONE);
     }
 
     private static void notRead() {
@@ -193,6 +214,8 @@ final class RunTest {
         Check.runs(x, "repeat 0 [ c.0 = 1; ]", 0, 0, -1);
         Check.runs(x, "d=0;repeat 2[repeat 3[repeat 4[repeat 5[d=d+1;]]]]", 1 + 2 + 6 + 24 + 240, 0, -1);
         Check.holds(x, -5, 0, 120);
+        Check.runs(x, "repeat 1[]repeat 2[repeat 1[]repeat 1[repeat 1[repeat 3[d=d+1;]]]]", 1 + 2 * 10, 0, -1);
+        Check.holds(x, -5, 0, 126);
         Check.runs(x, "d = 0; repeat 2 [ repeat 3 [ d = d + 1; ] repeat 0 [ d = 0; ] d = d + 10; ]", 17, 0, -1);
         Check.holds(x, -5, 0, 26);
     }
