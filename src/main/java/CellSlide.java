@@ -37,7 +37,6 @@ public final class CellSlide {
 
     private static final int NUM_FIELD = 0;
     private static final int REF_FIELD = 1;
-    private static final int WEAK_FIELD = 2;
     private static final int ANY_ITEM = 3;
 
     private static final String OWN_WORDS =
@@ -1981,10 +1980,10 @@ public final class CellSlide {
 
         private void exchange(State s, int register, boolean intoField) {
             int target = pointsTo(s.at(draw(REGISTERS) - REGISTERS));
-            if (target == NONE) {
+            int begins = target == NONE ? NONE : s.headOf(target);
+            if (begins == NONE) {
                 return;
             }
-            int begins = s.headOf(target);
             int head = s.at(begins);
             int field = draw(kinds.wordsOf(head) - 1);
             int address = begins + 1 + field;
