@@ -40,6 +40,8 @@ final class Check {
     /** The tape, which must be empty, has these bytes. */
     static void bytes(CellSlide x, int... bytes) {
         int[] padded = Arrays.copyOf(bytes, (bytes.length + 19) / 20 * 20);
+        // What lies behind the end must not be read: it is made to look as if the text went on.
+        Arrays.fill(padded, bytes.length, padded.length, " a0;".charAt(bytes.length % 4));
         for (int i = 0; i < padded.length; i += 20) {
             due("feed", x.feed(four(padded, i), four(padded, i + 4), four(padded, i + 8),
                 four(padded, i + 12), four(padded, i + 16)), i + 20);

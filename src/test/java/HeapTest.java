@@ -190,6 +190,8 @@ final class HeapTest {
             + "cell c p 1,2,3;cell d p 1,2,3;");
         Check.due("has(1) of a full heap", full.has(1), 0);
         Check.due("has(2) of a full heap", full.has(2), 4);
+        CellSlide names = Check.heap("heap 16;kind azAZ num;cell zaZA azAZ 1;cell z azAZ 2;root 0 zaZA;");
+        Check.holds(names, -8, 1, 14);
         CellSlide largest = Check.heap("heap 160;");
         Check.due("has(0) of the largest", largest.has(0), 160);
         Check.due("has(3) without kinds", largest.has(3), 0);

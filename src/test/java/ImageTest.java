@@ -138,15 +138,17 @@ final class ImageTest {
         bytes[bytes.length - 1] ^= 1;
         Check.bytes(x, bytes);
         Check.due("on() with a wrong sum", x.on(), false);
-        Check.bytes(x, java.util.Arrays.copyOf(image, image.length - 1));
-        Check.due("on() too short", x.on(), false);
-        Check.bytes(x, java.util.Arrays.copyOf(image, image.length + 1));
-        Check.due("on() too long", x.on(), false);
+        for (int more : new int[] {-3, -1, 1, 3}) {
+            bytes = java.util.Arrays.copyOf(image, image.length + more);
+            bytes[bytes.length - 1] = sum(bytes);
+            Check.bytes(x, bytes);
+            Check.due("on() with " + more + " bytes more", x.on(), false);
+        }
         Check.bytes(x);
         Check.due("on() of nothing", x.on(), false);
         Check.bytes(x, 0, 16);
         Check.due("on() of two bytes", x.on(), false);
-        Check.due("status(6)", x.status(6), 27);
+        Check.due("status(6)", x.status(6), 29);
         changed(x, image, true, 0, 0);
         changed(x, image, true, 2, 0, 3, 0, 4, 1);
         changed(x, image, true, 2, 0, 3, 7, 4, 207);

@@ -211,6 +211,7 @@ final class RunTest {
         Check.runs(x, "repeat 99 [ when 1=1 [ when 1=2 [] when 1=1 [] ] ] repeat 0 [] repeat 5 []", 400, 6, 63);
         Check.runs(x, "repeat 80 [ a=a;a=a;a=a;a=a;] when c.0 = 1 []", 400, 6, 30);
         Check.runs(x, "repeat 80 [ a=a;a=a;a=a;a=a;] slide;", 400, 6, 30);
+        Check.runs(x, "a=b;".repeat(400), 400, 0, -1);
         Check.runs(x, "repeat 0 [ c.0 = 1; ]", 0, 0, -1);
         Check.runs(x, "d=0;repeat 2[repeat 3[repeat 4[repeat 5[d=d+1;]]]]", 1 + 2 + 6 + 24 + 240, 0, -1);
         Check.holds(x, -5, 0, 120);
