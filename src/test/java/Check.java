@@ -8,6 +8,7 @@ final class Check {
 
     private static int wrong = 0;
     private static int asked = 0;
+    private static String about = "";
 
     private Check() { }
 
@@ -16,13 +17,22 @@ final class Check {
         if (got != want) {
             wrong++;
             if (wrong <= 100) {
-                System.out.println(call + " answered " + got + ", due is " + want);
+                System.out.println(about + call + " answered " + got + ", due is " + want);
             }
         }
     }
 
     static void due(String call, boolean got, boolean want) {
         due(call, got ? 1 : 0, want ? 1 : 0);
+    }
+
+    /** What is told ahead of each wrong answer from here on. */
+    static void about(String what) {
+        about = what.isEmpty() ? "" : "[" + what + "] ";
+    }
+
+    static int asked() {
+        return asked;
     }
 
     /** Ends the test: exit code 1 if an answer was wrong. */
