@@ -5,6 +5,9 @@ final class EdgesOfCells {
         + "cell b two nil,nil;cell c one a+1;cell d two b+1,a;set b.0 c+1;set b.1 c;root 1 d+2;root 3 a;root 4 a+1;"
         + "root 6 3;";
     private static final String NONE_LIVE = "heap 16;kind w weak;cell a w nil;cell b w a;cell c w b;";
+    // A live cell at 0: d 0 .. 3 (to c), c 4 .. 7 (to d+1), b, a dead.
+    private static final String FULL = "heap 16;kind t num,num,ref;cell a t 1,2,nil;cell b t 1,2,nil;cell c t 1,2,nil;"
+        + "cell d t 1,2,c;set c.2 d;root 0 d;";
     private static final int[] NO_WORDS = {-9, -8, -1, 20, 160, Integer.MAX_VALUE, Integer.MIN_VALUE};
 
     private EdgesOfCells() { }
@@ -91,6 +94,8 @@ final class EdgesOfCells {
         CellSlide six = Check.heap("heap 16;kind s num,num,num,num,num,num;cell a s 1,2,3,4,5,6;cell b s 1,2,3,4,5,6;");
         Check.due("cellOf(15)", six.cellOf(15), 9);
         Check.due("cellOf(8)", six.cellOf(8), 2);
+        Check.due("cellOf(0)", Check.heap(FULL).cellOf(0), 0);
+        Check.due("cellOf(3)", Check.heap(FULL).cellOf(3), 0);
         Edge.of(11, "NONE when there is none such.");
         for (int a : NO_WORDS) {
             Edge.none("cellOf(" + a + ")", x.cellOf(a));
@@ -108,6 +113,7 @@ final class EdgesOfCells {
         }
         Check.due("goes(18), which stays", x.goes(18), 18);
         Check.due("goes(19), which stays", x.goes(19), 19);
+        Check.due("goes(0)", Check.heap(FULL).goes(0), 8);
         Edge.of(12, "NONE when it is not LIVE, or there is none such.");
         Edge.none("goes(16)", x.goes(16));
         Edge.none("goes(17)", x.goes(17));
@@ -123,6 +129,11 @@ final class EdgesOfCells {
         }
         Check.due("comes(18)", x.comes(18), 18);
         Check.due("comes(19)", x.comes(19), 19);
+        Check.due("comes(8)", Check.heap(FULL).comes(8), 0);
+        CellSlide whole = Check.heap("heap 16;kind t num,num,num;cell a t 1,2,3;cell b t 1,2,3;cell c t 1,2,3;cell d t 1,2,3;"
+            + "root 0 a;root 1 b;root 2 c;root 3 d;");
+        Check.due("comes(0) of what stays", whole.comes(0), 0);
+        Check.due("goes(0) of what stays", whole.goes(0), 0);
         // A NEW PLACE is one whatever lies there now.
         CellSlide free = Check.heap("heap 16;kind p num;cell a p 1;cell b p 2;root 0 b;");
         Check.due("comes(15), where a dead cell is", free.comes(15), 13);
@@ -188,6 +199,8 @@ final class EdgesOfCells {
         Check.due("none of dead cells", dead.chain(14, 0), 1);
         Check.due("within its cell, down", dead.chain(14, 1), 1);
         Check.due("none of dead cells", dead.chain(15, 0), 0);
+        Check.due("chain(0, 0)", Check.heap(FULL).chain(0, 0), 1);
+        Check.due("chain(0, 1)", Check.heap(FULL).chain(0, 1), 1);
         Edge.of(15, "NONE when it is not LIVE, there is none such, or for others.");
         for (int pass = 0; pass < 2; pass++) {
             Edge.none("chain(16, ..)", x.chain(16, pass));

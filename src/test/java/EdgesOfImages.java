@@ -118,6 +118,23 @@ final class EdgesOfImages {
         Check.due("undo()", x.undo(), false);
         octetsAre(x, IMAGE);
         Check.due("it goes on as any other", x.collect(), 14);
+        // What a heap() with a FAULT read in between is nothing to it.
+        Check.text(x, "heap 30;kind q num;cell a q 5;root 3 a;method 1;?");
+        Edge.none("heap()", x.heap());
+        Check.bytes(x, bare(16));
+        Check.due("on()", x.on(), true);
+        Check.due("has(0)", x.has(0), 16);
+        Check.due("has(1)", x.has(1), 16);
+        Edge.words(x, -8, "nil nil nil nil nil nil nil nil N0 N0 N0 N0 N0 N0 N0 N0 N0 N0 N0 N0 N0 N0 N0 N0");
+        CellSlide most = Check.heap("heap 160;kind t ref,num,num;");
+        Edge.runs(most, 160, "repeat 40 [ a = new t; a.0 = b; b = a; ]");
+        int[] full = Edge.imageOf(most);
+        Edge.runs(most, 2, "a = nil; b = nil;");
+        Check.due("collect()", most.collect(), 160);
+        Check.bytes(most, full);
+        Check.due("on() of the largest, full", most.on(), true);
+        Check.due("has(2)", most.has(2), 40);
+        octetsAre(most, full);
         Edge.of(41, "(SEEN, REMEMBERED, how a RUN FAILED stay.)");
         x = Check.heap(H);
         Edge.fails(x, 0, 2, " ^a.1 = a;");
@@ -185,6 +202,23 @@ final class EdgesOfImages {
         int[] bare = bare(16);
         tried(H, bare, true, "no cells, THE LIMIT at the end");
         tried(H, bare(17), false, "THE LIMIT behind the end");
+        // Its length is as such a LIMIT would have it: what is behind the tape's end must not stand in for a register.
+        int[] tooFew = Arrays.copyOf(bare(17), 24);
+        for (int number = 1; number < 2000 && (number == 1 || tooFew[23] != 0); number++) {
+            tooFew[2] = 0;
+            tooFew[3] = number >> 8;
+            tooFew[4] = number & 255;
+            tooFew[23] = sum(tooFew);
+        }
+        Check.due("its last byte", tooFew[23], 0);
+        CellSlide x = Check.heap(H);
+        int[] more = Arrays.copyOf(tooFew, 26);
+        more[24] = 3;
+        more[25] = 232;
+        Check.bytes(x, more);
+        Check.due("end(24)", x.end(24), true);
+        Check.due("on() of a LIMIT behind the end", x.on(), false);
+        Check.due("has(1)", x.has(1), 11);
         tried(H, bare(15), false, "THE LIMIT without its word");
         Edge.of(41, "or without a heap.");
         CellSlide none = new CellSlide();
@@ -238,6 +272,17 @@ final class EdgesOfImages {
         bytes[31] = 231;
         bytes[32] = sum(bytes);
         tried(H, bytes, true, "a cell that does not");
+        // One HEAD alone: of the KIND behind the last one, and of one whose FIELD lies behind the end.
+        int[] head = Arrays.copyOf(bare(15), 30);
+        head[26] = 2;
+        head[27] = 3;
+        for (int kind = 0; kind < 7; kind++) {
+            head[28] = 232 + kind;
+            head[29] = sum(head);
+            tried(H, head, false, "a head of kind " + kind);
+            tried("heap 16;", head, false, "a head of kind " + kind);
+            tried("heap 16;kind n num;", head, false, "a head of kind " + kind);
+        }
         Edge.of(41, "NUMBERS in num FIELDS,");
         changed(true, 36, 0, 37, 1);
         changed(true, 36, 7, 37, 207);

@@ -6,6 +6,9 @@ final class EdgesOfKeeping {
         + "root 6 3;";
     private static final String NONE_LIVE = "heap 16;kind w weak;cell a w nil;cell b w a;cell c w b;";
     private static final String T = "heap 60;kind t ref,ref,ref;kind v weak,ref;";
+    // A live cell at 0, from which the one at 4 is come to.
+    private static final String FULL = "heap 16;kind t num,num,ref;cell a t 1,2,nil;cell b t 1,2,nil;cell c t 1,2,nil;"
+        + "cell d t 1,2,c;root 0 d;root 1 c;";
     private static final int[] NO_WORDS = {-9, -8, -1, 7, 0, 20, 160, Integer.MAX_VALUE, Integer.MIN_VALUE};
 
     private EdgesOfKeeping() { }
@@ -132,6 +135,9 @@ final class EdgesOfKeeping {
             + "cell d w a,c+1;root 0 a;root 1 b+1;root 2 5;root 3 d;";
         Edge.of("IV", "THE SHAPE: what REGISTERS hold; of each CELL as FOUND its KIND, what its FIELDS hold;");
         alikeBehind(heap, "c = 6;", 0);
+        alikeBehind(heap, "a = a + 1;", 0);
+        alikeBehind(heap + "root 0 5;", "a = 6;", 0);
+        alikeBehind(heap + "root 7 5;", "h = 6;", 0);
         alikeBehind(heap, "c = nil;", 0);
         alikeBehind(heap, "e = 0;", 0);
         alikeBehind(heap, "c = 5;", 1);
@@ -155,6 +161,14 @@ final class EdgesOfKeeping {
             + "root 2 a+6;";
         alikeBehind(wide, "c = b;", 0);
         alikeBehind(wide, "c = b + 6;", 0);
+        for (int by = 0; by <= 6; by++) {
+            for (int to = 0; to <= 6; to++) {
+                alikeBehind(wide + "root 2 a+" + by + ";", "c = b + " + to + ";", 0);
+                alikeBehind(wide + "root 2 a+" + by + ";", "c = a + " + to + ";", by == to ? 1 : 0);
+            }
+            alikeBehind(wide + "root 2 a+" + by + ";", "c = nil;", 0);
+            alikeBehind(wide + "root 2 b+" + by + ";", "c = nil;", 0);
+        }
         Edge.of("IV", "one to a CELL that is not LIVE is as nil.");
         alikeBehind(heap, "d.1 = nil;", 1);
         CellSlide x = Check.heap(heap);
@@ -174,6 +188,7 @@ final class EdgesOfKeeping {
         for (int a = 8; a < 20; a++) {
             Check.due("far(" + a + ")", x.far(a), far[a - 8]);
         }
+        Check.due("far(0)", Check.heap(FULL).far(0), 0);
         Edge.of(19, "NONE when it is not LIVE, or there is none such.");
         Edge.none("far(16)", x.far(16));
         Edge.none("far(17)", x.far(17));
@@ -194,6 +209,7 @@ final class EdgesOfKeeping {
         wayIs(x, 14, 1, 0);
         wayIs(x, 18, 3);
         wayIs(x, 19, 3);
+        wayIs(Check.heap(FULL), 0, 0);
         Edge.of(20, "NONE behind its end, or when there is none such.");
         Edge.none("way(8, 1)", x.way(8, 1));
         Edge.none("way(11, 3)", x.way(11, 3));
@@ -226,6 +242,7 @@ final class EdgesOfKeeping {
             Check.due("retains(" + a + ")", x.retains(a), retains[a - 8]);
         }
         Check.due("retains(15) of none live", Check.heap(NONE_LIVE).retains(15), 0);
+        Check.due("retains(0)", Check.heap(FULL).retains(0), 4);
         Edge.of(22, "NONE when there is none such.");
         for (int a : NO_WORDS) {
             Edge.none("retains(" + a + ")", x.retains(a));
@@ -271,6 +288,9 @@ final class EdgesOfKeeping {
         Edge.none("way(159, 80)", most.way(159, 80));
         Check.due("remember()", most.remember(), 80);
         Check.due("alike()", most.alike(), 1);
+        // The last field of the last one found belongs to the shape, too.
+        Edge.runs(most, 161, "c = a; repeat 79 [ c = c.0; ] c.0 = a; c = nil;");
+        Check.due("alike()", most.alike(), 0);
         Edge.of(24, "NONE when there is none such, or without a heap.");
         for (int k : new int[] {4, -2, Integer.MAX_VALUE, Integer.MIN_VALUE}) {
             Edge.none("found(" + k + ")", x.found(k));

@@ -114,7 +114,7 @@ final class EdgesOfRuns {
             Edge.runFault(x, 1, end + " \n^");
         }
         String[] marked = {"^?", "^;", "^]", "a = 1;^]", "repeat 1 []^]", "^1 = a;", "^aa = 1;", "^A = 1;", "^i = 1;",
-            "^abcdefgh = 1;", "a^1 = 1;", "a ^b = 1;", "a.^b = 1;", "a.0^b = 1;", "a.100^0 = 1;", "a ^+ 1 = 1;", "a = ^;",
+            "^abcdefgh = 1;", "a^1 = 1;", "a ^b = 1;", "a.^b = 1;", "a. ^= 1;", "a = b.^;", "a = b + ^;", "when a. ^= 1 []", "a.0^b = 1;", "a.100^0 = 1;", "a ^+ 1 = 1;", "a = ^;",
             "a = ^ab;", "a = b ^c;", "^sliding;", "slide ^slide;", "slide^1;",
             "repeat^3 []", "repeat ^a []", "repeat 3^;", "repeat 3[]^;", "repeat 1[ a = 1^]", "^whena = b []",
             "when^1 = 1 []", "when a ^[", "when a = b ^= c []", "when a = b^;", "a = ^newp;", "a = new ^5;",
@@ -134,6 +134,7 @@ final class EdgesOfRuns {
         Edge.of("III", "2 of repeat a number that can't be, at it;");
         Edge.runFault(x, 2, "repeat ^100 [");
         Edge.runFault(x, 2, "d = 1; repeat ^999");
+        Edge.runFault(x, 1, "repeat 100^0 [");
         Edge.runs(x, 0, "repeat 000 [] ");
         Edge.runs(x, 99, "repeat 099 []");
         Edge.of("III", "3 a KIND that there is not, at it;");
@@ -284,6 +285,10 @@ final class EdgesOfRuns {
         Edge.fails(x, 0, 1, "^when d.0 = a.2 []");
         Edge.fails(Check.heap(FULL), 0, 5, "^h.0 = new t;");
         Edge.fails(x, 1, 2, "repeat 3 [ ^a.2 = 1; ]");
+        // Rounds that were left open are not gone on with by the next one.
+        Edge.fails(x, 4, 2, "repeat 9 [ repeat 9 [ repeat 9 [ repeat 9 [ ^a.2 = 1; ] ] ] ]");
+        Edge.runs(x, 2 + 6 + 24 + 240 + 1, "d = 0; repeat 2 [ repeat 3 [ repeat 4 [ repeat 5 [ d = d + 1; ] ] ] ]");
+        Edge.words(x, -5, "N120");
         Edge.of("III", "what was done stays (a NEW CELL that nothing holds, too).");
         x = r();
         Edge.fails(x, 2, 3, "d = 7; a.0 = 8; ^a.1 = 9;");
@@ -652,6 +657,20 @@ final class EdgesOfRuns {
         Check.due("undo()", x.undo(), true);
         Check.due("has(5)", x.has(5), 0);
         Check.due("has(6)", x.has(6), 0);
+        undoneIntoTheMiddle();
+        // What is KEPT goes back, also where the oldest one had to go.
+        x = r();
+        Edge.runs(x, 1, "slide;");
+        Edge.runs(x, 21, "a = nil; b = nil; e = nil; repeat 9 [ slide; ]");
+        Edge.runs(x, 20, "repeat 10 [ slide; ]");
+        Check.due("has(6)", x.has(6), 20);
+        Check.due("kept(0, 0)", x.kept(0, 0), 9);
+        Check.due("collect()", x.collect(), 24);
+        Check.due("kept(0, 0), the oldest gone", x.kept(0, 0), 0);
+        Check.due("undo()", x.undo(), true);
+        Check.due("kept(0, 0)", x.kept(0, 0), 9);
+        Check.due("has(5)", x.has(5), 20);
+        x = r();
         Edge.of(37, "false, refused (5), when none can be.");
         Check.due("undo()", x.undo(), false);
         Check.due("undo()", x.undo(), false);
@@ -659,6 +678,34 @@ final class EdgesOfRuns {
         x = new CellSlide();
         Check.due("undo() without a heap", x.undo(), false);
         Check.due("status(5)", x.status(5), 1);
+    }
+
+    /** Behind others that had other words to slide it goes on as it began. */
+    private static void undoneIntoTheMiddle() {
+        for (int method = 0; method < 2; method++) {
+            // By METHOD 1 there are three blocks: c | d, dead | b | z, dead | a; c's weak field points to z.
+            CellSlide x = Check.heap("heap 30;kind p num,ref;kind w weak,ref;cell a p 5,nil;cell z p 1,nil;cell b p 7,a+1;"
+                + "cell d p 2,nil;cell c w z,b;root 0 a;root 1 b+2;root 2 9;root 4 c;method " + method + ";");
+            Check.due("begin()", x.begin(), method == 0 ? 28 : 22);
+            Check.due("step(3)", x.step(3), method == 0 ? 25 : 19);
+            String middle = words(x);
+            Check.due("step(400)", x.step(400), 0);
+            String end = words(x);
+            Edge.runs(x, 5, "slide; a = nil; b = nil; e = new w; slide;");
+            Check.due("collect()", x.collect(), 27);
+            Check.due("method()", x.method(1 - method), true);
+            Check.due("begin()", x.begin(), method == 0 ? 14 : 16);
+            Check.due("step(2)", x.step(2), method == 0 ? 12 : 14);
+            for (int n = 0; n < 6; n++) {
+                Check.due("undo()", x.undo(), true);
+            }
+            Edge.same("the middle", words(x), middle);
+            Check.due("step(400)", x.step(400), 0);
+            Edge.same("the end", words(x), end);
+            Check.due("kept(0, 0)", x.kept(0, 0), 9);
+            Check.due("kept(0, 1)", x.kept(0, 1), 6);
+            Check.due("kept(0, 3)", x.kept(0, 3), 1);
+        }
     }
 
     private static void seed() {

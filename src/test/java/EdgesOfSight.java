@@ -164,6 +164,17 @@ final class EdgesOfSight {
         thenIs(x, 0, 15);
         Check.due("nothing is done", x.has(5), 1);
         thenIs(Check.heap("heap 16;"), 0, 10);
+        // The most STEPS that there can be.
+        CellSlide most = Check.heap("heap 160;kind t ref,num,num;");
+        Edge.runs(most, 160, "repeat 40 [ a = new t; a.0 = b; b = a; ]");
+        thenIs(most, 0, 330);
+        // 1 is threaded to 4 by step 11, 4 is come to by step 14; 159 is nil to the end.
+        Check.due("see()", Edge.see(most, 4, 3, 1), 1);
+        thenIs(most, 11, 13);
+        Check.due("see()", Edge.see(most, 157, 1, -1, 159, 0, 0), 2);
+        thenIs(most, 0, 330);
+        Check.due("see()", Edge.see(most, 0, 3, -8), 1);
+        thenIs(most, 2, 2);
         Edge.of(28, "NONE when there is none such, or without a heap.");
         for (int k : new int[] {16, -2, Integer.MAX_VALUE, Integer.MIN_VALUE}) {
             Edge.none("then(" + k + ")", x.then(k));

@@ -194,6 +194,9 @@ final class EdgesOfSliding {
         Edge.words(x, 10, "H0 P14 H1 N2 H0 nil");
         x = behind(still, 3);
         Edge.words(x, 10, "N10 N2 H0 P14 H0 nil");
+        // It has no row in THE TABLE either, were there room for one.
+        x = behind("heap 16;kind r ref;kind n num;cell a r nil;cell y n 2;cell z n 3;cell b r a;root 0 b;method 1;", 3);
+        Edge.words(x, 8, "N8 N4 N0 N0 H0 P14 H0 nil");
         Edge.of("II", "else its WORDS lie at their NEW PLACES, and THE TABLE begins where it began: two WORDS, NUMBERS: "
             + "where it began, by how much it went up;");
         x = behind(s, 2);
@@ -265,6 +268,14 @@ final class EdgesOfSliding {
         keptIs(x, 0, 3, 0, 0, 0);
         keptIs(x, 18, 3, 0, 0, 0);
         keptIs(x, 19, 3, 0, 1, 0);
+        // Each is unlike the others: n of CELLS, of two words, were not LIVE in the n-th.
+        x = Check.heap("heap 160;kind n num;");
+        for (int n = 1; n <= 23; n++) {
+            Edge.runs(x, 2 * n + 1, "repeat " + n + " [ a = new n; ] slide;");
+        }
+        for (int k = 0; k < 20; k++) {
+            Check.due("kept(" + k + ", 1)", x.kept(k, 1), k == 0 ? 2 * 3 + 2 : 2 * (k + 3) + 2);
+        }
     }
 
     private static void keptIs(CellSlide x, int k, int... want) {

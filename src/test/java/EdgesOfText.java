@@ -121,6 +121,8 @@ final class EdgesOfText {
         Edge.heapFault(3, "heap 16;kind q num;cell ^q q 1;");
         Edge.heapFault(3, "heap 16;kind q num;cell x q 1;cell ^x q 1;");
         Edge.heapFault(3, "heap 16;kind q num;cell x q 1;kind ^x num;");
+        Edge.good("heap 24;kind ab num;kind ba num;kind b num;kind bb num;cell abc ab 1;cell cba ab 1;cell bac ab 1;"
+            + "cell aab ab 1;cell aba ab 1;cell Ab ab 1;cell aB ab 1;cell AB ab 1;", 13);
         Edge.of("I", "NUMBERS: 1 to 3 digits.");
         Check.due("has(0)", Check.heap("heap 016;").has(0), 16);
         Edge.words(Check.heap("heap 16;root 0 5;root 1 05;root 2 005;root 003 999;"), -8, "N5 N5 N5 N999");
@@ -179,6 +181,15 @@ final class EdgesOfText {
         Edge.heapFault(1, A + "set a ^0 1;");
         Edge.heapFault(1, A + "set a.^a 1;");
         Edge.heapFault(1, "heap 16;root ^nil nil;");
+        Edge.heapFault(1, "heap 16;root 0 ^;");
+        Edge.heapFault(1, "heap 16;kind q ^,num;");
+        Edge.heapFault(1, "heap 16;kind q num,^,num;");
+        Edge.heapFault(1, P + "cell a p ^,nil,nil;");
+        Edge.heapFault(1, P + "cell a p 1,^,nil;");
+        Edge.heapFault(1, P + "cell a p 1,nil,^;");
+        Edge.heapFault(1, A + "set a.0 ^;");
+        Edge.heapFault(1, A + "set a.1 ^;");
+        Edge.heapFault(1, A + "set a.1 a+^;");
         Edge.of("I", "where a NAME is asked, a 7th letter,");
         Edge.heapFault(1, "heap 16;kind abcdef^ghijk num;");
         Edge.heapFault(1, "heap 16;kind repeat^s num;");
@@ -191,6 +202,10 @@ final class EdgesOfText {
         Edge.of("I", "where a number is, a 4th digit at itself;");
         Edge.heapFault(1, "heap 016^0;");
         Edge.heapFault(1, "heap 160^12345;");
+        // The number that the digits make is not looked at: where a NAME has a 7th letter it is so, too.
+        Edge.heapFault(1, "heap 999^9;");
+        Edge.heapFault(1, "heap 000^0;");
+        Edge.heapFault(1, A + "root 999^9 nil;");
         Edge.heapFault(1, A + "set a.000^0 1;");
         Edge.heapFault(1, A + "set a.0 999^9;");
         Edge.heapFault(1, A + "set a.1 a+000^1;");
@@ -236,6 +251,10 @@ final class EdgesOfText {
         Edge.heapFault(2, "heap ^15");
         Edge.heapFault(2, "heap ^161 ?");
         Edge.heapFault(2, "heap ^999;");
+        // What the tape has behind its end (a digit, once in these four) is not read.
+        for (String blanks : new String[] {"", " ", "  ", "   "}) {
+            Edge.heapFault(2, blanks + "heap ^161");
+        }
         Edge.heapFault(2, A + "set a.^3 nil;");
         Edge.heapFault(2, A + "set a.^999");
         Edge.heapFault(2, A + "set a.1 a+^4;");
@@ -353,6 +372,19 @@ final class EdgesOfText {
         Check.due("feed", x.feed(0, 0, 0, 0, 0), 20);
         Edge.none("heap() of what is none", x.heap());
         Check.due("feed", x.feed(0, 0, 0, 0, 0), 20);
+        // What the one ahead of it ended with is nothing to the next one.
+        x = new CellSlide();
+        Check.text(x, "heap 16");
+        Edge.none("heap() that ends too soon", x.heap());
+        Check.text(x, "       heap 17;");
+        Check.due("heap()", x.heap(), 1);
+        Check.text(x, "heap 18;kind p num;cell a p 1;kind q num;cell b q 1;root 0 b;method 1;");
+        Check.due("heap()", x.heap(), 7);
+        Check.text(x, "heap 19;kind a num;kind p num;cell b p 1;cell q a 2;");
+        Check.due("heap()", x.heap(), 5);
+        Edge.words(x, -8, "nil nil nil nil nil nil nil nil N0");
+        Edge.words(x, 14, "N0 H0 N2 H1 N1");
+        Check.due("has(4)", x.has(4), 0);
         Edge.of(4, "NONE, refused (1), with a FAULT (all stays;");
         x = full();
         String before = Edge.all(x);
@@ -455,16 +487,20 @@ final class EdgesOfText {
         Edge.none("has(10) without a heap", new CellSlide().has(10));
         Edge.of(6, "(2 while a COLLECTION goes on: as there were when it began.)");
         for (String method : new String[] {"", "method 1;"}) {
-            x = Check.heap("heap 16;kind p num;kind r ref;cell a p 1;cell b r nil;cell c p 2;cell d r b;root 0 d;"
+            x = Check.heap("heap 16;kind p num,num;kind r ref;cell a p 1,1;cell b r nil;cell c p 2,2;cell d r b;root 0 d;"
                 + method);
+            Check.due("begin()", x.begin() > 0, true);
+            Check.due("undo()", x.undo(), true);
             int left = x.begin();
             while (left > 0) {
                 Check.due("has(2) with " + left + " left", x.has(2), 4);
-                Check.due("has(1) with " + left + " left", x.has(1), 8);
+                Check.due("has(1) with " + left + " left", x.has(1), 6);
                 left = x.step(1);
             }
             Check.due("has(2) behind it", x.has(2), 2);
             Check.due("has(1) behind it", x.has(1), 12);
+            Check.due("begin()", x.begin() > 0, true);
+            Check.due("has(2) of the next one", x.has(2), 2);
         }
     }
 
