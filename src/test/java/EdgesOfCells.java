@@ -22,6 +22,7 @@ final class EdgesOfCells {
         longest();
         steps();
         room();
+        largest();
     }
 
     private static void goingOn() {
@@ -123,6 +124,12 @@ final class EdgesOfCells {
         }
         Edge.none("goes(0) without a heap", new CellSlide().goes(0));
         Edge.none("goes(15) of none live", Check.heap(NONE_LIVE).goes(15));
+        CellSlide less = Check.heap("heap 16;kind p num;cell a p 1;cell b p 2;root 0 a;root 1 b;");
+        Check.due("goes(14), live", less.goes(14), 14);
+        Edge.runs(less, 1, "a = nil;");
+        Edge.none("goes(14), not live any more", less.goes(14));
+        Edge.none("goes(15), not live any more", less.goes(15));
+        Check.due("goes(12)", less.goes(12), 14);
         Edge.of(13, "Of which WORD that is the NEW PLACE;");
         for (int a = 10; a < 18; a++) {
             Check.due("comes(" + a + ")", x.comes(a), a - 2);
@@ -258,6 +265,44 @@ final class EdgesOfCells {
         }
         Edge.none("steps(0) without a heap", new CellSlide().steps(0));
         Edge.none("steps(1) without a heap", new CellSlide().steps(1));
+    }
+
+    /** Every word of the largest heap is live: nothing behind the last one is looked at. */
+    private static void largest() {
+        Edge.of(12, "The NEW PLACE of a WORD;");
+        CellSlide x = Check.heap("heap 160;kind r ref;");
+        Edge.runs(x, 320, "repeat 80 [ b = new r; b.0 = a; a = b; ]");
+        Check.due("goes(159)", x.goes(159), 159);
+        Check.due("goes(0)", x.goes(0), 0);
+        Edge.none("goes(160)", x.goes(160));
+        Edge.of(13, "Of which WORD that is the NEW PLACE;");
+        Check.due("comes(159)", x.comes(159), 159);
+        Edge.of(14, "Of the k-th BLOCK from the lowest on: 0 where it begins, 1 its WORDS, 2 by how much it goes up.");
+        Check.due("block(0, 1)", x.block(0, 1), 160);
+        Check.due("block(0, 2)", x.block(0, 2), 0);
+        Edge.none("block(1, 0)", x.block(1, 0));
+        Edge.of(15, "NONE when it is not LIVE, there is none such, or for others.");
+        Check.due("chain(158, 0)", x.chain(158, 0), 1);
+        Check.due("chain(159, 1)", x.chain(159, 1), 0);
+        Edge.none("chain(160, 0)", x.chain(160, 0));
+        Edge.of(16, "The most POINTERS that are THREADED at one (0 .. 1 as there; 0 without LIVE ones);");
+        Check.due("longest(0)", x.longest(0), 2);
+        Check.due("longest(1)", x.longest(1), 0);
+        Edge.of(17, "How many STEPS a COLLECTION by a METHOD would have;");
+        Check.due("steps(0)", x.steps(0), 330);
+        Check.due("steps(1)", x.steps(1), 171);
+        Check.due("method(1)", x.method(1), true);
+        Check.due("collect()", x.collect(), 0);
+        Edge.of(10, "Of the k-th CELL by ADDRESSES: 0 where it begins, 1 KIND, 2 WORDS, 3 whether LIVE.");
+        Check.due("cell(79, 0)", x.cell(79, 0), 158);
+        Check.due("cell(79, 3)", x.cell(79, 3), 1);
+        CellSlide six = Check.heap("heap 160;kind s num,num,num,num,num,num;kind r ref;cell a s 1,2,3,4,5,6;root 0 a;");
+        Check.due("cell(0, 0)", six.cell(0, 0), 153);
+        Check.due("cell(0, 3)", six.cell(0, 3), 1);
+        // A dead one at the end: what goes there comes from below.
+        CellSlide dead = Check.heap("heap 160;kind r ref;cell z r nil;cell a r nil;root 0 a;");
+        Edge.none("goes(159)", dead.goes(159));
+        Check.due("comes(159)", dead.comes(159), 157);
     }
 
     private static void room() {

@@ -56,6 +56,9 @@ final class EdgesOfRuns {
         Edge.runs(x, 198, "repeat 99 [ d = d + 1; ]");
         Edge.words(x, -5, "N101");
         Edge.runs(x, 3, "repeat 3 []");
+        // Rounds behind rounds, as deep as can be.
+        Edge.runs(x, 2 + 2 + 6 + 12 + 36 + 36, "d = 0; repeat 1 [] repeat 2 [ repeat 3 [ repeat 2 [ repeat 3 [ d = d + 1; ] ] ] ]");
+        Edge.words(x, -5, "N36");
         Edge.runs(x, 6, "d = 0; when 1 = 1 [ d = d + 1; ] when nil = nil [ d = d + 2; ] when a = a [ ]");
         Edge.words(x, -5, "N3");
         Edge.runs(x, 8, "when 1 = 2 [ d = 9; ] when nil = 0 [ d = 9; ] when 0 = f [ d = 9; ] when a = b [ d = 9; ]"

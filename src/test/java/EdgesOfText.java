@@ -207,6 +207,7 @@ final class EdgesOfText {
         Edge.heapFault(1, "heap 000^0;");
         Edge.heapFault(1, A + "root 999^9 nil;");
         Edge.heapFault(1, A + "set a.000^0 1;");
+        Edge.heapFault(1, A + "set a.999^9 1;");
         Edge.heapFault(1, A + "set a.0 999^9;");
         Edge.heapFault(1, A + "set a.1 a+000^1;");
         Edge.heapFault(1, A + "root 000^0 1;");
