@@ -9,7 +9,7 @@ import java.util.Map;
 /**
  * Sentences of the document and the tests that stand for them. Each is quoted word by word: a quote that
  * the document does not have is wrong, so is one behind which nothing is asked, and so is any part of
- * the Terms or the promises that no quote has.
+ * the document that no quote has.
  */
 final class Edge {
     private static final Path DOCUMENT = Path.of("../shared/DOC.md");
@@ -32,9 +32,8 @@ final class Edge {
                 name = next;
                 text.setLength(0);
             }
-            boolean aside = line.startsWith("#") || line.startsWith("```")
-                || line.startsWith("Ahead of the calls") && !line.contains("tell NONE while");
-            text.append(aside ? "" : line.replaceFirst("^(I|II|III|IV)\\. |^`[^`]*\\)`: ", "")).append(' ');
+            boolean aside = line.startsWith("#") || line.startsWith("```");
+            text.append(aside ? "" : line.replaceFirst("^(I|II|III|IV)\\. ", "")).append(' ');
         }
         addSection(name, text.toString());
     }
@@ -53,7 +52,18 @@ final class Edge {
         if (line.startsWith("The constants:")) {
             return "constants";
         }
-        return line.startsWith("## ") ? "" : null;
+        switch (line) {
+            case "## What it is": return "what";
+            case "## The public face": return "face";
+            case "## Terms": return "terms";
+            case "## Not promised": return "not";
+            default: return line.startsWith("## ") ? "" : null;
+        }
+    }
+
+    /** The text of a section, in one line; empty if there is none such. */
+    static String section(String name) {
+        return SECTIONS.getOrDefault(name, "");
     }
 
     private static void addSection(String name, String text) {
@@ -70,7 +80,7 @@ final class Edge {
         latest = section + ": " + quote;
         Check.about(latest);
         askedBefore = Check.asked();
-        String text = SECTIONS.getOrDefault(section, "");
+        String text = section(section);
         int at = text.indexOf(quote);
         if (at < 0) {
             Check.due("the document says so", false, true);
@@ -91,11 +101,11 @@ final class Edge {
         }
     }
 
-    /** Every word of the Terms and the promises must be quoted. */
+    /** Every word of the document must be quoted. */
     static void end() {
         closeLatest();
         Check.about("");
-        Check.due("sections", SECTIONS.size(), 4 + 42 + 2);
+        Check.due("sections", SECTIONS.size(), 4 + 42 + 6);
         for (String name : SECTIONS.keySet()) {
             for (String part : unquoted(name)) {
                 Check.due("no test quotes " + name + ": " + part, true, false);

@@ -1,9 +1,10 @@
 import java.io.IOException;
 
-/** Every sentence of the Terms and of promises 1 to 42, quoted, with a test of its own. */
+/** Every sentence of the document from its first line on, quoted, with a test of its own. */
 final class EdgeTest {
     public static void main(String[] args) throws IOException {
         Edge.readDocument();
+        EdgesOfFace.all();
         EdgesOfText.all();
         EdgesOfSliding.all();
         EdgesOfRuns.all();

@@ -174,6 +174,35 @@ final class EdgesOfImages {
         }
     }
 
+    /** The last byte is what is left of 251: a byte that differs by 251 leaves it as it is, but it is not the same byte. */
+    private static void likeSums() {
+        int[] bytes = IMAGE.clone();
+        bytes[36] = 3;
+        bytes[37] = 255;
+        bytes[41] = sum(bytes);
+        tried(H, bytes, true, "23 in a num field");
+        bytes[37] = 4;
+        Check.due("the last byte is as it was", bytes[41], sum(bytes));
+        tried(H, bytes, true, "-228 in it, by the same last byte");
+        CellSlide x = Check.heap(H);
+        Check.bytes(x, bytes);
+        Check.due("on()", x.on(), true);
+        Check.holds(x, 14, 0, -228);
+        bytes[0] = 252;
+        Check.due("the last byte is as it was", bytes[41], sum(bytes));
+        tried(H, bytes, false, "METHOD 252, by the same last byte");
+        bytes[0] = 1;
+        for (int number = 0; number < 1000 && (number == 0 || bytes[41] > 4); number++) {
+            bytes[36] = (number + 1000) >> 8;
+            bytes[37] = (number + 1000) & 255;
+            bytes[41] = sum(bytes);
+        }
+        tried(H, bytes, true, "a last byte of 4 or less");
+        bytes[41] += 251;
+        Check.due("it is a byte still", bytes[41] < 256, true);
+        tried(H, bytes, false, "251 more than the last byte that is due");
+    }
+
     private static void notOn() {
         Edge.of(41, "false, refused (6), all staying, when it is none");
         changed(true);
@@ -191,6 +220,7 @@ final class EdgesOfImages {
             }
             tried(H, other, false, length + " bytes");
         }
+        likeSums();
         Edge.of(41, "(METHODS; THE LIMIT;");
         changed(true, 0, 0);
         changed(false, 0, 2);
